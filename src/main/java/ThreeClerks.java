@@ -234,30 +234,127 @@ public final class ThreeClerks {
         }
     }
 
-    /** Reads a text as a script; it stops at the first token that could not stand where it stood. */
-    private static final class Reader {
-        private static final int END = 0;
-        private static final int WORD = 1;
-        private static final int NUMBER = 2;
-        private static final int SIGN = 3;
-        private static final int NO_TOKEN = 4;
-        private static final int NO_VALUE = -1;
+    /** The text as a row of tokens, the last one being its end. */
+    private static final class Tokens {
+        static final int END = 0;
+        static final int REGISTER = 1;
+        static final int NUMBER = 2;
+        static final int SIGN = 3;
+        static final int SORT = 4;
+        static final int SUMS = 5;
+        static final int OPEN = 6;
+        /** Other words, numbers that are too long, and characters that begin no token. */
+        static final int WRONG = 7;
         private static final int MOST_DECIMALS = 3;
-        private static final int MOST_LETTERS_APART = 4;
         private static final String SIGNS = "=+-*<?:;$";
 
         private final char[] text;
-        private int length;
+        final int[] kinds = new int[MOST_CHARACTERS + 1];
+        final int[] begins = new int[MOST_CHARACTERS + 1];
+        /** The register, the number, or the sign's character. */
+        final int[] values = new int[MOST_CHARACTERS + 1];
+        private int count;
+
+        Tokens(char[] text) {
+            this.text = text;
+        }
+
+        void scan(int length) {
+            count = 0;
+            int position = 0;
+            while (position < length) {
+                int end = text[position] == ' ' ? position + 1 : scanToken(position, length);
+                position = Math.max(position + 1, end);
+            }
+            add(END, length, 0);
+        }
+
+        private void add(int kind, int begin, int value) {
+            if (count < kinds.length) {
+                kinds[count] = kind;
+                begins[count] = begin;
+                values[count] = value;
+                count++;
+            }
+        }
+
+        /** Answers where the token ends. */
+        private int scanToken(int begin, int length) {
+            char character = text[begin];
+            if (isLetter(character)) {
+                return scanWord(begin, length);
+            }
+            if (isDecimal(character)) {
+                return scanNumber(begin, length);
+            }
+            add(SIGNS.indexOf(character) >= 0 ? SIGN : WRONG, begin, character);
+            return begin + 1;
+        }
+
+        private int scanWord(int begin, int length) {
+            int end = begin + 1;
+            while (end < length && isLetter(text[end])) {
+                end++;
+            }
+            int kind = WRONG;
+            if (end == begin + 1) {
+                kind = REGISTER;
+            } else if (isWord("sort", begin, end)) {
+                kind = SORT;
+            } else if (isWord("sums", begin, end)) {
+                kind = SUMS;
+            } else if (isWord("open", begin, end)) {
+                kind = OPEN;
+            }
+            add(kind, begin, text[begin] - 'a');
+            return end;
+        }
+
+        private int scanNumber(int begin, int length) {
+            int number = 0;
+            int end = begin;
+            while (end < length && isDecimal(text[end])) {
+                number = 10 * number + text[end] - '0';
+                end++;
+            }
+            add(end - begin <= MOST_DECIMALS ? NUMBER : WRONG, begin, number);
+            return end;
+        }
+
+        private boolean isWord(String word, int begin, int end) {
+            if (end - begin != word.length()) {
+                return false;
+            }
+            for (int i = 0; i < word.length(); i++) {
+                if (text[begin + i] != word.charAt(i)) {
+                    return false;
+                }
+            }
+            return true;
+        }
+
+        private static boolean isLetter(char character) {
+            return character >= 'a' && character <= 'z';
+        }
+
+        private static boolean isDecimal(char character) {
+            return character >= '0' && character <= '9';
+        }
+    }
+
+    /** Reads a text as a script; it stops at the first token that could not stand where it stood. */
+    private static final class Reader {
+        private static final int NO_VALUE = -1;
+        private static final int MOST_LETTERS_APART = 4;
+
+        private final Tokens tokens;
         /** Apart from the script that is there, which stays if the text turns out to be none. */
         private final Script draft = new Script();
-        private int position;
-        private int begin;
-        private int kind;
-        /** The number, or the sign's character. */
-        private int value;
+        /** The token at hand; no step goes on from the last one, so it is always in the row. */
+        private int at;
 
         Reader(char[] text) {
-            this.text = text;
+            tokens = new Tokens(text);
         }
 
         Script draft() {
@@ -265,19 +362,18 @@ public final class ThreeClerks {
         }
 
         int tokenBegin() {
-            return begin;
+            return tokens.begins[at];
         }
 
-        boolean readScript(int textLength) {
-            length = Math.min(textLength, text.length);
+        boolean readScript(int length) {
+            tokens.scan(length);
             draft.clear();
-            position = 0;
-            scan();
+            at = 0;
             for (int statements = 0; statements <= length; statements++) {
                 if (!readStatement()) {
                     return false;
                 }
-                if (kind == END) {
+                if (is(Tokens.END)) {
                     return true;
                 }
                 if (!takeSign(';')) {
@@ -288,47 +384,39 @@ public final class ThreeClerks {
         }
 
         private boolean readStatement() {
-            if (isWord("sort")) {
-                return readSort();
+            switch (tokens.kinds[at]) {
+                case Tokens.SORT:
+                    return readRow(true);
+                case Tokens.SUMS:
+                    return readRow(false);
+                case Tokens.OPEN:
+                    return readOpen();
+                case Tokens.REGISTER:
+                    return readAssignment();
+                default:
+                    return false;
             }
-            if (isWord("sums")) {
-                return readSums();
-            }
-            if (isWord("open")) {
-                return readOpen();
-            }
-            return isRegister() && readAssignment();
         }
 
-        private boolean readSort() {
-            scan();
-            if (!isRegister()) {
+        private boolean readRow(boolean sorting) {
+            at++;
+            if (!is(Tokens.REGISTER)) {
                 return false;
             }
-            int first = takeRegister();
+            int first = take();
             if (!endsRowFrom(first)) {
                 return false;
             }
-            int last = register();
-            int registers = last - first + 1;
-            if (!draft.takeComparisons(registers * (registers - 1) / 2)) {
+            int registers = tokens.values[at] - first + 1;
+            if (sorting && !draft.takeComparisons(registers * (registers - 1) / 2)) {
                 return false;
             }
-            scan();
-            draft.addSort(first, last);
-            return true;
-        }
-
-        private boolean readSums() {
-            scan();
-            if (!isRegister()) {
-                return false;
+            int last = take();
+            if (sorting) {
+                draft.addSort(first, last);
+            } else {
+                draft.addSums(first, last);
             }
-            int first = takeRegister();
-            if (!endsRowFrom(first)) {
-                return false;
-            }
-            draft.addSums(first, takeRegister());
             return true;
         }
 
@@ -336,16 +424,16 @@ public final class ThreeClerks {
             if (!draft.takeOpen()) {
                 return false;
             }
-            scan();
-            if (!isRegister()) {
+            at++;
+            if (!is(Tokens.REGISTER)) {
                 return false;
             }
-            draft.add(Script.OPEN, 0, takeRegister(), 0, 0);
+            draft.add(Script.OPEN, 0, take(), 0, 0);
             return true;
         }
 
         private boolean readAssignment() {
-            int target = takeRegister();
+            int target = take();
             if (!takeSign('=')) {
                 return false;
             }
@@ -356,55 +444,62 @@ public final class ThreeClerks {
             if (isSign('?')) {
                 return readChoice(target, first);
             }
-            int task = taskOfSign();
-            if (task == Script.COPY) {
-                draft.add(Script.COPY, target, first, 0, 0);
-                return true;
+            int kind = kindOfSign();
+            if (kind != Script.COPY) {
+                return readSecond(kind, target, first);
             }
-            if (task == Script.LESS && !draft.takeComparisons(1)) {
+            draft.add(kind, target, first, 0, 0);
+            return true;
+        }
+
+        private boolean readSecond(int kind, int target, int first) {
+            if (kind == Script.LESS && !draft.takeComparisons(1)) {
                 return false;
             }
-            scan();
+            at++;
             int second = readValue();
-            draft.add(task, target, first, second, 0);
-            return second != NO_VALUE;
+            if (second == NO_VALUE) {
+                return false;
+            }
+            draft.add(kind, target, first, second, 0);
+            return true;
         }
 
         private boolean readChoice(int target, int first) {
             if (!draft.takeComparisons(1)) {
                 return false;
             }
-            scan();
+            at++;
             int second = readValue();
             if (second == NO_VALUE || !takeSign(':')) {
                 return false;
             }
             int third = readValue();
+            if (third == NO_VALUE) {
+                return false;
+            }
             draft.add(Script.CHOOSE, target, first, second, third);
-            return third != NO_VALUE;
+            return true;
         }
 
-        /** Reads a value as an operand; on NO_VALUE the token at hand is the one that is wrong. */
+        /** Reads a value as an operand; at NO_VALUE the token at hand is the one that is wrong. */
         private int readValue() {
-            if (isRegister()) {
-                return takeRegister();
+            if (is(Tokens.REGISTER)) {
+                return take();
             }
-            if (kind == NUMBER) {
-                int operand = FIRST_NUMBER + value;
-                scan();
-                return operand;
+            if (is(Tokens.NUMBER)) {
+                return FIRST_NUMBER + take();
             }
-            if (!takeSign('$') || kind != NUMBER || value >= INPUTS) {
+            if (!takeSign('$') || !is(Tokens.NUMBER) || tokens.values[at] >= INPUTS) {
                 return NO_VALUE;
             }
-            int named = value;
+            int named = take();
             draft.named[named] = true;
-            scan();
             return REGISTERS + named;
         }
 
         /** COPY where no operator stands. */
-        private int taskOfSign() {
+        private int kindOfSign() {
             if (isSign('+')) {
                 return Script.ADD;
             }
@@ -417,88 +512,31 @@ public final class ThreeClerks {
             return isSign('<') ? Script.LESS : Script.COPY;
         }
 
-        private boolean isRegister() {
-            return kind == WORD && position == begin + 1;
+        private boolean is(int kind) {
+            return tokens.kinds[at] == kind;
         }
 
-        private int register() {
-            return text[begin] - 'a';
-        }
-
-        private int takeRegister() {
-            int register = register();
-            scan();
-            return register;
-        }
-
-        private boolean endsRowFrom(int first) {
-            return isRegister() && register() > first && register() - first <= MOST_LETTERS_APART;
+        private int take() {
+            int value = tokens.values[at];
+            at++;
+            return value;
         }
 
         private boolean isSign(char sign) {
-            return kind == SIGN && value == sign;
+            return tokens.kinds[at] == Tokens.SIGN && tokens.values[at] == sign;
         }
 
         private boolean takeSign(char sign) {
             if (!isSign(sign)) {
                 return false;
             }
-            scan();
+            at++;
             return true;
         }
 
-        private boolean isWord(String word) {
-            if (kind != WORD || position - begin != word.length()) {
-                return false;
-            }
-            for (int i = 0; i < word.length(); i++) {
-                if (text[begin + i] != word.charAt(i)) {
-                    return false;
-                }
-            }
-            return true;
-        }
-
-        private void scan() {
-            while (position < length && text[position] == ' ') {
-                position++;
-            }
-            begin = position;
-            if (position >= length) {
-                kind = END;
-            } else if (isLetter(text[position])) {
-                scanWord();
-            } else if (isDecimal(text[position])) {
-                scanNumber();
-            } else {
-                value = text[position];
-                kind = SIGNS.indexOf(text[position]) >= 0 ? SIGN : NO_TOKEN;
-                position++;
-            }
-        }
-
-        private void scanWord() {
-            while (position < length && isLetter(text[position])) {
-                position++;
-            }
-            kind = WORD;
-        }
-
-        private void scanNumber() {
-            value = 0;
-            while (position < length && isDecimal(text[position])) {
-                value = 10 * value + text[position] - '0';
-                position++;
-            }
-            kind = position - begin <= MOST_DECIMALS ? NUMBER : NO_TOKEN;
-        }
-
-        private static boolean isLetter(char character) {
-            return character >= 'a' && character <= 'z';
-        }
-
-        private static boolean isDecimal(char character) {
-            return character >= '0' && character <= '9';
+        private boolean endsRowFrom(int first) {
+            int apart = tokens.values[at] - first;
+            return is(Tokens.REGISTER) && apart >= 1 && apart <= MOST_LETTERS_APART;
         }
     }
 
@@ -869,6 +907,7 @@ public final class ThreeClerks {
         private static final int JOINING_ALL = 2;
         private static final int LAST_PRODUCT = 3;
         private static final int OPENING = 4;
+        private static final int TASK_DONE = 5;
 
         private final int who;
         private final Script script;
@@ -906,6 +945,7 @@ public final class ThreeClerks {
             Arrays.fill(own, 0);
             Arrays.fill(next, 0);
             task = 0;
+            stage = TASK_DONE;
             sent = 0;
             waiting = false;
             openedCount = 0;
@@ -931,16 +971,59 @@ public final class ThreeClerks {
 
         /** Goes on up to the next message that it must wait for, or to the end of the task. */
         void step() {
-            if (!waiting) {
+            if (waiting) {
+                product.next = box.at(sent);
+                takeAnswer();
+            } else {
                 beginTask();
-                return;
             }
-            waiting = false;
-            product.next = box.at(sent);
+            waiting = stage != TASK_DONE;
+            if (waiting) {
+                sendPiece();
+            } else {
+                task++;
+            }
+        }
+
+        private void beginTask() {
+            int first = script.firsts[task];
+            int second = script.seconds[task];
+            switch (script.kinds[task]) {
+                case Script.MULTIPLY:
+                    load(left, first);
+                    load(right, second);
+                    stage = LAST_PRODUCT;
+                    break;
+                case Script.LESS:
+                    beginComparison(first, second);
+                    break;
+                case Script.SWAP:
+                    beginComparison(second, first);
+                    break;
+                case Script.CHOOSE:
+                    // The lowest bit of a sum is the exclusive or of the parts' lowest bits.
+                    load(bit, first);
+                    bit.and(1);
+                    joinTwo();
+                    break;
+                case Script.OPEN:
+                    load(left, first);
+                    stage = OPENING;
+                    break;
+                default:
+                    reckonAlone(first, second);
+                    break;
+            }
+        }
+
+        private void takeAnswer() {
             switch (stage) {
                 case COMPARING:
                     comparison.accept(product);
-                    goOnComparing();
+                    if (comparison.isDone()) {
+                        comparison.giveResult(bit);
+                        joinTwo();
+                    }
                     break;
                 case JOINING_TWO:
                     joinAll();
@@ -957,35 +1040,18 @@ public final class ThreeClerks {
             }
         }
 
-        private void beginTask() {
-            int first = script.firsts[task];
-            int second = script.seconds[task];
-            switch (script.kinds[task]) {
-                case Script.MULTIPLY:
-                    load(left, first);
-                    load(right, second);
-                    multiply(LAST_PRODUCT);
-                    break;
-                case Script.LESS:
-                    beginComparison(first, second);
-                    break;
-                case Script.SWAP:
-                    beginComparison(second, first);
-                    break;
-                case Script.CHOOSE:
-                    // The lowest bit of a sum is the exclusive or of the parts' lowest bits.
-                    load(bit, first);
-                    bit.and(1);
-                    joinTwo();
-                    break;
-                case Script.OPEN:
-                    load(left, first);
-                    ask(OPENING, left.next);
-                    break;
-                default:
-                    reckonAlone(first, second);
-                    break;
+        /** All clerks send at the same points, so the answer has the number of what was sent. */
+        private void sendPiece() {
+            sent++;
+            if (stage == COMPARING) {
+                comparison.ask(left, right);
+                product.own = (left.own & (right.own ^ right.next)) ^ (left.next & right.own) ^ pads.xor(sent);
+            } else if (stage == OPENING) {
+                product.own = left.next;
+            } else {
+                product.own = left.own * (right.own + right.next) + left.next * right.own + pads.difference(sent);
             }
+            post.send((who + CLERKS - 1) % CLERKS, sent, product.own);
         }
 
         private void reckonAlone(int first, int second) {
@@ -995,34 +1061,23 @@ public final class ThreeClerks {
                 left.add(right, script.kinds[task] == Script.ADD ? 1 : -1);
             }
             store(script.targets[task], left);
-            task++;
+            stage = TASK_DONE;
         }
 
         private void beginComparison(int first, int second) {
             load(left, first);
             load(right, second);
             comparison.begin(left, right);
-            goOnComparing();
+            stage = COMPARING;
         }
 
-        private void goOnComparing() {
-            if (comparison.isDone()) {
-                comparison.giveResult(bit);
-                joinTwo();
-                return;
-            }
-            comparison.ask(left, right);
-            product.own = (left.own & (right.own ^ right.next)) ^ (left.next & right.own) ^ pads.xor(sent + 1);
-            ask(COMPARING, product.own);
-        }
-
-        /** Makes numbers of the bit's first two parts and begins with their exclusive or. */
+        /** Makes numbers of the bit's three parts, whose exclusive or is then reckoned: first of two. */
         private void joinTwo() {
             left.copy(bit);
             left.keep(0);
             right.copy(bit);
             right.keep(1);
-            multiply(JOINING_TWO);
+            stage = JOINING_TWO;
         }
 
         private void joinAll() {
@@ -1031,24 +1086,24 @@ public final class ThreeClerks {
             left.add(product, -2);
             right.copy(bit);
             right.keep(2);
-            multiply(JOINING_ALL);
+            stage = JOINING_ALL;
         }
 
         private void takeBit() {
             bit.copy(left);
             bit.add(right, 1);
             bit.add(product, -2);
-            if (script.kinds[task] == Script.LESS) {
+            int kind = script.kinds[task];
+            if (kind == Script.LESS) {
                 store(script.targets[task], bit);
-                task++;
+                stage = TASK_DONE;
                 return;
             }
-            boolean swapping = script.kinds[task] == Script.SWAP;
             load(right, script.seconds[task]);
-            load(left, swapping ? script.firsts[task] : script.thirds[task]);
+            load(left, kind == Script.SWAP ? script.firsts[task] : script.thirds[task]);
             right.add(left, -1);
             left.copy(bit);
-            multiply(LAST_PRODUCT);
+            stage = LAST_PRODUCT;
         }
 
         private void takeLastProduct() {
@@ -1057,14 +1112,14 @@ public final class ThreeClerks {
                 load(left, script.thirds[task]);
                 product.add(left, 1);
             } else if (kind == Script.SWAP) {
-                load(left, script.firsts[task]);
                 load(right, script.seconds[task]);
                 right.add(product, -1);
                 store(script.seconds[task], right);
+                load(left, script.firsts[task]);
                 product.add(left, 1);
             }
             store(script.targets[task], product);
-            task++;
+            stage = TASK_DONE;
         }
 
         private void takeOpened() {
@@ -1072,20 +1127,7 @@ public final class ThreeClerks {
                 opened[openedCount] = (int) (left.own + left.next + product.next);
                 openedCount++;
             }
-            task++;
-        }
-
-        private void multiply(int newStage) {
-            product.own = left.own * (right.own + right.next) + left.next * right.own + pads.difference(sent + 1);
-            ask(newStage, product.own);
-        }
-
-        /** All clerks send at the same points, so the answer has the number of what was sent. */
-        private void ask(int newStage, long word) {
-            stage = newStage;
-            sent++;
-            waiting = true;
-            post.send((who + CLERKS - 1) % CLERKS, sent, word);
+            stage = TASK_DONE;
         }
 
         private void load(Parts into, int operand) {
@@ -1130,44 +1172,41 @@ public final class ThreeClerks {
             clerks[2].hold(slot, part2, part0);
         }
 
+        /** Every move is a step or a message that comes, so there is an end. */
         void carryOut(int turns) {
             chance = turns;
             for (int moves = 0; moves < MOST_MOVES; moves++) {
-                if (!makeMove()) {
+                int choices = post.size() + countReady();
+                if (choices <= 0) {
                     return;
                 }
+                makeMove(draw(choices));
             }
         }
 
-        /** Every move is a step or a message that comes, so there is an end. */
-        private boolean makeMove() {
-            int choices = post.size();
-            for (int i = 0; i < CLERKS; i++) {
-                if (clerks[i].canStep()) {
-                    choices++;
-                }
-            }
-            if (choices == 0) {
-                return false;
-            }
-            int pick = draw(choices);
-            if (pick < post.size()) {
-                post.deliver(pick, clerks);
-            } else {
-                stepOfReady(pick - post.size());
-            }
-            return true;
-        }
-
-        private void stepOfReady(int place) {
+        private int countReady() {
             int ready = 0;
             for (int i = 0; i < CLERKS; i++) {
                 if (clerks[i].canStep()) {
-                    if (ready == place) {
+                    ready++;
+                }
+            }
+            return ready;
+        }
+
+        private void makeMove(int pick) {
+            if (pick < post.size()) {
+                post.deliver(pick, clerks);
+                return;
+            }
+            int passedOver = post.size();
+            for (int i = 0; i < CLERKS; i++) {
+                if (clerks[i].canStep()) {
+                    if (passedOver == pick) {
                         clerks[i].step();
                         return;
                     }
-                    ready++;
+                    passedOver++;
                 }
             }
         }

@@ -86,5 +86,11 @@ public final class CompileTest {
         Check.opens(x, 5, 12);
         Check.compiles(x, "b=1", 0);
         Check.opens(x, 5);
+        // An input that an earlier text names is none that this script names.
+        Check.refuses(x, "a=$6;", 5);
+        Check.compiles(x, "a=$7", 0);
+        Check.noState("run without input 7", () -> x.run(5));
+        Check.compiles(x, "b=2;open b", 0);
+        Check.opens(x, 5, 2);
     }
 }

@@ -5,14 +5,13 @@ public final class PlaceTest {
         Check.same("no call", -1, x.place());
         Check.write(x, "a=");
         Check.same("no call yet", -1, x.place());
-        x.wipe();
-        tooEarly(x);
-        wrongToken(x);
-        noToken(x);
-        rows(x);
-        limits(x);
-        firstOne(x);
-        latest(x);
+        tooEarly(new ThreeClerks());
+        wrongToken(new ThreeClerks());
+        noToken();
+        rows(new ThreeClerks());
+        limits(new ThreeClerks());
+        firstOne(new ThreeClerks());
+        latest(new ThreeClerks());
         Check.end();
     }
 
@@ -59,14 +58,16 @@ public final class PlaceTest {
         Check.refuses(x, "open a b", 7);
     }
 
-    private static void noToken(ThreeClerks x) {
+    private static void noToken() {
         for (char c = 33; c <= 126; c++) {
             if ("=+-*<?:;$".indexOf(c) < 0 && !Character.isDigit(c) && !(c >= 'a' && c <= 'z')) {
+                ThreeClerks x = new ThreeClerks();
                 Check.refuses(x, " a= " + c, 4);
                 Check.refuses(x, "a=1 " + c, 4);
                 Check.refuses(x, c + "a=1", 0);
             }
         }
+        ThreeClerks x = new ThreeClerks();
         Check.refuses(x, "aB=1", 1);
         Check.refuses(x, "a=1000", 2);
         Check.refuses(x, "a=b+0000", 4);

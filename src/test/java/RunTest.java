@@ -28,9 +28,9 @@ public final class RunTest {
 
     private static void comparing() {
         int[] edges = {0, 1, 2, Integer.MAX_VALUE - 1, Integer.MAX_VALUE, TOP, TOP + 1, -2, -1, 0x55555555, 0xAAAAAAAA, 1 << 16};
-        ThreeClerks x = Check.seeded();
-        Check.compiles(x, "a=$0<$1;open a;b=$1;b=b<$0;open b;c=b<b;open c", 3);
         for (int p : edges) {
+            ThreeClerks x = Check.seeded();
+            Check.compiles(x, "a=$0<$1;open a;b=$1;b=b<$0;open b;c=b<b;open c", 3);
             for (int q : edges) {
                 x.input(0, p);
                 x.input(1, q);
@@ -109,15 +109,14 @@ public final class RunTest {
     }
 
     private static void turns() {
-        ThreeClerks x = Check.seeded();
-        x.input(0, -100);
-        x.input(1, 100);
-        Check.compiles(x, "a=$0;b=$1;c=7;d=a*b;open d;e=a<b;open e;e=b?a:c;open e;sort a d;open a;open b;open c;open d", 8);
+        int[] edges = {0, -1, Integer.MAX_VALUE, Integer.MIN_VALUE};
         for (int i = 0; i < 200; i++) {
-            int turns = i < 32 ? 1 << i : i < 64 ? ~(1 << i) : i * 0x9E3779B1;
+            int turns = i < 4 ? edges[i] : i < 36 ? 1 << i : i < 68 ? ~(1 << i) : i * 0x9E3779B1;
+            ThreeClerks x = Check.seeded();
+            x.input(0, -100);
+            x.input(1, 100);
+            Check.compiles(x, "a=$0;b=$1;c=7;d=a*b;open d;e=a<b;open e;e=b?a:c;open e;sort a d;open a;open b;open c;open d", 8);
             Check.opens(x, turns, -10000, 0, 7, 7, 100, -10000, -100);
-        }
-        for (int turns : new int[] {0, -1, Integer.MAX_VALUE, Integer.MIN_VALUE}) {
             Check.opens(x, turns, -10000, 0, 7, 7, 100, -10000, -100);
         }
     }

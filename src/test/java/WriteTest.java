@@ -36,8 +36,8 @@ public final class WriteTest {
     }
 
     private static void codes() {
-        ThreeClerks x = new ThreeClerks();
         for (int code = 1; code < 256; code++) {
+            ThreeClerks x = new ThreeClerks();
             for (int at = 0; at < 8; at++) {
                 boolean due = code >= 32 && code <= 126;
                 long others = 0x6161616161616161L & ~(255L << (8 * at));
@@ -45,6 +45,7 @@ public final class WriteTest {
                 Check.same("wipe", due ? 8 : 0, x.wipe());
             }
         }
+        ThreeClerks x = new ThreeClerks();
         Check.holds("minus one", !x.write(-1L));
         Check.same("wipe", 0, x.wipe());
         Check.write(x, "a=1");

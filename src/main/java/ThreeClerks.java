@@ -1146,7 +1146,7 @@ public final class ThreeClerks {
 
     /** The three clerks and the post between them; who is next is drawn from the turns. */
     private static final class Office {
-        /** Twelve comparisons and all else that fits in a text need some three thousand. */
+        /** Twelve comparisons and all else that fits in a text need fewer than two thousand. */
         private static final int MOST_MOVES = 1000000;
 
         private final Post post = new Post();

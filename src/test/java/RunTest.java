@@ -1,85 +1,78 @@
-/** Promise 8, and what it is to carry a script out. */
+/** Promise 8; what it is to carry a script out stands in CarryOutTest. */
 public final class RunTest {
-    private static final int[] NONE = {};
-    private static final int TOP = Integer.MIN_VALUE;
+    private static final String ALL_KINDS =
+        "a=$0;b=$1;c=7;d=a*b;open d;e=a<b;open e;e=b?a:c;open e;sort a d;open a;open b;open c;open d";
 
     public static void main(String[] args) {
-        reckoning();
-        comparing();
-        choosing();
-        sorting();
-        summing();
-        opening();
-        missing();
+        howManyOutputs();
+        fromBeforeAreGone();
+        turnsMakeNoDifference();
+        seedsMakeNoDifference();
+        noScript();
+        seedNotSet();
+        namedInputNotSet();
+        otherInputNotSet();
+        outputsStay();
         again();
-        turns();
         Check.end();
     }
 
-    private static void reckoning() {
-        Check.reckons("a=7;open a;b=a;open b", NONE, 7, 7);
-        Check.reckons("open a;open z", NONE, 0, 0);
-        Check.reckons("a=$0+$1;open a;a=$0-$1;open a;a=$0*$1;open a", new int[] {-5, 12}, 7, -17, -60);
-        Check.reckons("a=$0+$0;open a;b=$0*$0;open b;c=0-$0;open c", new int[] {TOP}, 0, 0, TOP);
-        Check.reckons("a=$0*$1;open a", new int[] {0x12345679, 0x7654321F}, 0x12345679 * 0x7654321F);
-        Check.reckons("a=3;a=a*a;a=a-a;open a;a=a-1;open a", NONE, 0, -1);
-        Check.reckons("a=12*34;open a;b=5-999;open b;c=1+2;open c", NONE, 408, -994, 3);
-    }
-
-    private static void comparing() {
-        int[] edges = {0, 1, 2, Integer.MAX_VALUE - 1, Integer.MAX_VALUE, TOP, TOP + 1, -2, -1, 0x55555555, 0xAAAAAAAA, 1 << 16};
-        for (int p : edges) {
-            ThreeClerks x = Check.seeded();
-            Check.compiles(x, "a=$0<$1;open a;b=$1;b=b<$0;open b;c=b<b;open c", 3);
-            for (int q : edges) {
-                x.input(0, p);
-                x.input(1, q);
-                int less = Integer.compareUnsigned(p, q);
-                Check.opens(x, p, less < 0 ? 1 : 0, less > 0 ? 1 : 0, 0);
-            }
-        }
-    }
-
-    private static void choosing() {
-        int[] inputs = {3, 2, -1, TOP, 1000};
-        Check.reckons("a=$0?4:5;open a;a=$1?4:5;open a", inputs, 4, 5);
-        Check.reckons("a=$2?$3:$4;open a;a=$3?$3:$4;open a", inputs, TOP, 1000);
-        Check.reckons("a=1;a=a?a:a;open a;b=0?1:a;open b;b=2?7:b;open b", NONE, 1, 1, 1);
-    }
-
-    private static void sorting() {
-        int[] inputs = {-1, 5, TOP, 0, 5};
-        Check.reckons("a=$0;b=$1;c=$2;d=$3;e=$4;sort a e;open a;open b;open c;open d;open e", inputs, 0, 5, 5, TOP, -1);
-        Check.reckons("a=$0;b=$1;c=$2;d=$3;sort b c;open a;open b;open c;open d", inputs, -1, 5, TOP, 0);
-        Check.reckons("y=9;z=8;sort y z;open y;open z;open x", NONE, 8, 9, 0);
-        String load = "a=$0;b=$1;c=$2;d=$3;";
-        for (int order = 0; order < 256; order++) {
-            int[] row = {order & 3, order >> 2 & 3, order >> 4 & 3, order >> 6};
-            int[] due = row.clone();
-            java.util.Arrays.sort(due);
-            Check.reckons(load + "sort a d;open a;open b;open c;open d", row, due);
-        }
-    }
-
-    private static void summing() {
-        int[] inputs = {-1, 5, TOP, 10, 100};
-        Check.reckons("a=$0;b=$1;c=$2;d=$3;e=$4;sums a e;open a;open b;open c;open d;open e", inputs,
-            -1, 4, TOP + 4, TOP + 14, TOP + 114);
-        Check.reckons("a=1;b=2;c=4;d=8;sums b c;open a;open b;open c;open d", NONE, 1, 2, 6, 8);
-        Check.reckons("y=1;z=2;sums y z;open y;open z;open a", NONE, 1, 3, 0);
-    }
-
-    private static void opening() {
+    private static void howManyOutputs() {
+        Check.sentence("how many outputs there are then");
         ThreeClerks x = Check.seeded();
-        Check.compiles(x, "a=1;open a;a=2;open a;a=a;a=3", 0);
-        Check.opens(x, 0, 1, 2);
-        Check.compiles(x, "open a;".repeat(15) + "open a", 0);
-        Check.opens(x, 0, new int[16]);
         Check.compiles(x, "a=1", 0);
         Check.opens(x, 0);
+        for (int count = 1; count <= 16; count++) {
+            Check.compiles(x, "open a;".repeat(count) + "a=1", 0);
+            Check.opens(x, 0, new int[count]);
+        }
     }
 
-    private static void missing() {
+    private static void fromBeforeAreGone() {
+        Check.sentence("those from before are gone");
+        ThreeClerks x = Check.seeded();
+        Check.compiles(x, "open a;".repeat(15) + "open a", 0);
+        Check.opens(x, 0, new int[16]);
+        Check.opens(x, 1, new int[16]);
+        Check.compiles(x, "a=3;open a", 0);
+        Check.opens(x, 0, 3);
+        Check.opens(x, 1, 3);
+        Check.compiles(x, "a=1", 0);
+        Check.opens(x, 0);
+        Check.noIndex("output(0)", () -> x.output(0));
+    }
+
+    private static void turnsMakeNoDifference() {
+        Check.sentence("by turns, which makes no difference to the outputs");
+        int[] edges = {0, -1, Integer.MAX_VALUE, Integer.MIN_VALUE};
+        for (int i = 0; i < 200; i++) {
+            int turns = i < 4 ? edges[i] : i < 36 ? 1 << i : i < 68 ? ~(1 << i) : i * 0x9E3779B1;
+            ThreeClerks x = Check.seeded();
+            x.input(0, -100);
+            x.input(1, 100);
+            Check.compiles(x, ALL_KINDS, 8);
+            Check.opens(x, turns, -10000, 0, 7, 7, 100, -10000, -100);
+            Check.opens(x, turns, -10000, 0, 7, 7, 100, -10000, -100);
+        }
+    }
+
+    private static void seedsMakeNoDifference() {
+        Check.sentence("no difference to the outputs, as the seeds don't");
+        int[] edges = {0, 1, -1, Integer.MAX_VALUE, Integer.MIN_VALUE};
+        for (int i = 0; i < 125; i++) {
+            ThreeClerks x = new ThreeClerks();
+            x.seed(0, edges[i % 5], edges[i / 5 % 5]);
+            x.seed(1, edges[i / 5 % 5], edges[i / 25]);
+            x.seed(2, edges[i / 25], edges[i % 5]);
+            x.input(0, -100);
+            x.input(1, 100);
+            Check.compiles(x, ALL_KINDS, 8);
+            Check.opens(x, i, -10000, 0, 7, 7, 100, -10000, -100);
+        }
+    }
+
+    private static void noScript() {
+        Check.sentence("Illegal state: there is no script");
         ThreeClerks x = new ThreeClerks();
         Check.noState("nothing is there", () -> x.run(1));
         Check.setSeeds(x);
@@ -88,36 +81,92 @@ public final class RunTest {
         Check.noState("still no script", () -> x.run(1));
         Check.compiles(x, "a=8;open a", 0);
         Check.opens(x, 1, 8);
-        for (String script : new String[] {"a=$3;a=0", "a=0*$3", "a=1?2:$3", "a=$3?1:1", "a=0?$3:0", "a=$3<0", "a=b-$3"}) {
-            Check.write(x, script + ";a=5;open a");
-            x.compile();
-            Check.noState("input 3 of " + script, () -> x.run(1));
-            Check.has(x, 8);
+        Check.refuses(x, "open a;", 7);
+        Check.opens(x, 1, 8);
+    }
+
+    private static void seedNotSet() {
+        Check.sentence("Illegal state: a seed is not set");
+        for (int there = 0; there < 7; there++) {
+            ThreeClerks x = new ThreeClerks();
+            Check.compiles(x, "a=1", 0);
+            for (int i = 0; i < 3; i++) {
+                if ((there >> i & 1) == 1) {
+                    x.seed(i, 5, 6);
+                }
+            }
+            Check.noState("run with seeds " + there, () -> x.run(1));
+            Check.noState("run again", () -> x.run(0));
+            Check.setSeeds(x);
+            Check.opens(x, 1);
         }
-        x.input(3, 0);
-        Check.opens(x, 1, 5);
+    }
+
+    private static void namedInputNotSet() {
+        Check.sentence("Illegal state: an input that the script names, wherever it stands");
+        String[] scripts = {"a=$i", "a=$i;a=0", "a=0*$i", "a=$i*0", "a=$i-$i", "a=1?2:$i", "a=1?$i:2", "a=0?$i:2", "a=0?1:$i",
+            "a=$i?1:1", "a=$i<0", "a=0<$i", "a=b+$i", "a=$i+b", "open a;a=$ i", "a=$i;open b", "a=$00i"};
+        for (String script : scripts) {
+            for (int i = 0; i < 8; i++) {
+                String text = script.replace('i', (char) ('0' + i));
+                ThreeClerks x = Check.seeded();
+                Check.write(x, text);
+                x.compile();
+                Check.noState("<" + text + "> without inputs", () -> x.run(1));
+                for (int other = 0; other < 8; other++) {
+                    if (other != i) {
+                        x.input(other, 1);
+                    }
+                }
+                Check.noState("<" + text + "> without input " + i, () -> x.run(1));
+                x.input(i, 0);
+                Check.same("<" + text + ">", text.contains("open") ? 1 : 0, x.run(1));
+            }
+        }
+        ThreeClerks x = Check.seeded();
+        Check.compiles(x, "a=$0;b=$1;c=$2;d=$3;e=$4;f=$5;g=$6;h=$7;open h", 0);
+        for (int i = 0; i < 8; i++) {
+            Check.noState("run with " + i + " of eight inputs", () -> x.run(1));
+            x.input(7 - i, i);
+        }
+        Check.opens(x, 1, 0);
+    }
+
+    private static void otherInputNotSet() {
+        Check.sentence("an input that the script does not name may be missing");
+        for (int i = 0; i < 8; i++) {
+            ThreeClerks x = Check.seeded();
+            x.input(i, 9);
+            Check.compiles(x, "a=$" + i + ";open a", 0);
+            Check.opens(x, 1, 9);
+        }
+        ThreeClerks x = Check.seeded();
+        Check.compiles(x, "a=7;open a", 0);
+        Check.opens(x, 1, 7);
+    }
+
+    private static void outputsStay() {
+        Check.sentence("Illegal state (outputs stay)");
+        ThreeClerks x = Check.seeded();
+        Check.compiles(x, "a=8;open a;open b", 0);
+        Check.opens(x, 1, 8, 0);
+        Check.compiles(x, "open c;open c;a=$3;open a", 0);
+        Check.noState("run", () -> x.run(1));
+        Check.has(x, 8, 0);
+        Check.noState("run again", () -> x.run(2));
+        Check.has(x, 8, 0);
+        x.input(3, -3);
+        Check.has(x, 8, 0);
+        Check.opens(x, 1, 0, 0, -3);
     }
 
     private static void again() {
+        Check.sentence("Carries the script out, in every run anew");
         ThreeClerks x = Check.seeded();
         x.input(0, 6);
         Check.compiles(x, "b=b+1;a=a+$0;open a;open b", 0);
         for (int i = 0; i < 20; i++) {
-            // Registers hold 0 at first in every run, and outputs do not pile up.
             Check.opens(x, i, 6, 1);
-        }
-    }
-
-    private static void turns() {
-        int[] edges = {0, -1, Integer.MAX_VALUE, Integer.MIN_VALUE};
-        for (int i = 0; i < 200; i++) {
-            int turns = i < 4 ? edges[i] : i < 36 ? 1 << i : i < 68 ? ~(1 << i) : i * 0x9E3779B1;
-            ThreeClerks x = Check.seeded();
-            x.input(0, -100);
-            x.input(1, 100);
-            Check.compiles(x, "a=$0;b=$1;c=7;d=a*b;open d;e=a<b;open e;e=b?a:c;open e;sort a d;open a;open b;open c;open d", 8);
-            Check.opens(x, turns, -10000, 0, 7, 7, 100, -10000, -100);
-            Check.opens(x, turns, -10000, 0, 7, 7, 100, -10000, -100);
         }
     }
 }

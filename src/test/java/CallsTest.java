@@ -7,8 +7,12 @@ public final class CallsTest {
     private static final int CALLS = 512;
     private static final int[] INDEXES = {-1, 0, 1, 2, 3, 4, 5, 6, 7, 8, 15, 16, Integer.MAX_VALUE, Integer.MIN_VALUE};
     private static final int[] NUMBERS = {0, 1, -1, Integer.MAX_VALUE, Integer.MIN_VALUE, 1 << 16, 12345};
-    private static final String[] PIECES = {"a=$0;", "b=$1-7;", "c=a*b;", "d=a<b;", "e=d?a:c;", "sort a c;", "sums b e;", "open a;",
-        "open e;", "a=b", "open c", "sort d e", "a=a<c", "sort c a;", " ", "#", "$9", "1000"};
+    private static final String[] STATEMENTS = {"a=$0", "b=$1-7", "c=a*b", "d=a<b", "e=d?a:c", "sort a c", "sums b e", "open a",
+        "open b", "open c", "open d", "open e", "b=$6", "c=$7+a"};
+    private static final String[] BETWEEN = {";", " ;", "; "};
+    private static final String[] MOSTLY_WRONG = {";", " ", "#", "a=$9", "a=1000", "sort c a", "open", "$2"};
+    private static int runs;
+    private static int opened;
 
     private final Random random;
     private final ThreeClerks x = new ThreeClerks();
@@ -32,6 +36,8 @@ public final class CallsTest {
                 test.makeCall();
             }
         }
+        System.out.println(runs + " runs, " + opened + " outputs");
+        Check.holds("runs enough", runs > 5 * OBJECTS && opened > 10 * OBJECTS);
         Check.end();
     }
 
@@ -39,21 +45,20 @@ public final class CallsTest {
         int kind = random.nextInt(40);
         if (kind < 18) {
             write();
-        } else if (kind == 18) {
-            Check.same("wipe", text.length(), x.wipe());
-            text = "";
+        } else if (kind == 18 || place >= 0 && random.nextInt(5) == 0) {
+            wipe();
         } else if (kind < 22) {
             compile();
         } else if (kind < 24) {
             Check.same("place", place, x.place());
         } else if (kind < 28) {
-            input(pick(INDEXES), pick(NUMBERS));
+            input(index(2), pick(NUMBERS));
         } else if (kind < 30) {
-            seed(pick(INDEXES));
+            seed(index(3));
         } else if (kind < 33) {
             run();
         } else {
-            output(pick(INDEXES));
+            output(index(3));
         }
     }
 
@@ -61,9 +66,20 @@ public final class CallsTest {
         return row[random.nextInt(row.length)];
     }
 
+    /** Mostly one that there is, or that is wanted most. */
+    private int index(int most) {
+        return random.nextInt(3) == 0 ? pick(INDEXES) : random.nextInt(most);
+    }
+
+    private void wipe() {
+        Check.same("wipe", text.length(), x.wipe());
+        text = "";
+    }
+
     private void write() {
-        String piece = PIECES[random.nextInt(PIECES.length - (random.nextInt(8) == 0 ? 0 : 5))];
-        StringBuilder spread = new StringBuilder(piece.substring(0, Math.min(8, piece.length())));
+        boolean first = text.isEmpty() || text.trim().endsWith(";");
+        String[] pieces = random.nextInt(20) == 0 ? MOSTLY_WRONG : first ? STATEMENTS : BETWEEN;
+        StringBuilder spread = new StringBuilder(pieces[random.nextInt(pieces.length)]);
         while (spread.length() < 8 && random.nextInt(3) == 0) {
             spread.insert(random.nextInt(spread.length() + 1), random.nextInt(30) == 0 ? '\u007f' : '\0');
         }
@@ -120,6 +136,8 @@ public final class CallsTest {
         }
         outputs = script.reckon(inputs);
         Check.same("run(" + turns + ")", outputs.size(), x.run(turns));
+        runs++;
+        opened += outputs.size();
     }
 
     private void output(int i) {

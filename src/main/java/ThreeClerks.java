@@ -26,7 +26,7 @@ public final class ThreeClerks {
 
     private final char[] text = new char[MOST_CHARACTERS];
     private int length;
-    private final Reader reader = new Reader(text);
+    private final Reader reader = new Reader();
     private final Script script = new Script();
     private boolean scriptThere;
     private int wrongAt = -1;
@@ -34,7 +34,7 @@ public final class ThreeClerks {
     private final boolean[] inputSet = new boolean[INPUTS];
     private final long[] keys = new long[CLERKS];
     private final boolean[] keySet = new boolean[CLERKS];
-    private final Office office = new Office(script);
+    private final Office office = new Office();
     private final int[] outputs = new int[MOST_OPENED];
     private int outputCount;
     private int runs;
@@ -67,7 +67,7 @@ public final class ThreeClerks {
     }
 
     public int compile() throws IllegalArgumentException {
-        if (!reader.readScript(length)) {
+        if (!reader.readScript(text, length)) {
             wrongAt = reader.tokenBegin();
             throw new IllegalArgumentException("the text is no script");
         }
@@ -103,7 +103,7 @@ public final class ThreeClerks {
             throw new IllegalStateException("a script, a seed or an input is missing");
         }
         runs++;
-        office.prepare(keys, runs);
+        office.prepare(script, keys, runs);
         dealInputs();
         office.carryOut(turns);
         outputCount = office.copyOpened(outputs);
@@ -128,7 +128,7 @@ public final class ThreeClerks {
 
     private boolean namedInputsSet() {
         for (int i = 0; i < INPUTS; i++) {
-            if (script.named[i] && !inputSet[i]) {
+            if (script.names(i) && !inputSet[i]) {
                 return false;
             }
         }
@@ -138,7 +138,7 @@ public final class ThreeClerks {
     /** Two parts come from keys that the clerk who lacks the part does not have; the third is the rest. */
     private void dealInputs() {
         for (int i = 0; i < INPUTS; i++) {
-            if (script.named[i]) {
+            if (script.names(i)) {
                 int part0 = (int) Pads.pad(keys[0], runs, FIRST_DEALT + i);
                 int part1 = (int) Pads.pad(keys[1], runs, FIRST_DEALT + i);
                 office.deal(REGISTERS + i, part0, part1, inputs[i] - part0 - part1);
@@ -164,30 +164,29 @@ public final class ThreeClerks {
         final int[] firsts = new int[MOST_TASKS];
         final int[] seconds = new int[MOST_TASKS];
         final int[] thirds = new int[MOST_TASKS];
-        final boolean[] named = new boolean[INPUTS];
         int count;
         int comparisons;
         int opens;
+        /** A bit for each input that the script names, the lowest one for input 0. */
+        private int named;
 
         void clear() {
             count = 0;
             comparisons = 0;
             opens = 0;
-            for (int i = 0; i < INPUTS; i++) {
-                named[i] = false;
-            }
+            named = 0;
         }
 
         void copy(Script from) {
             count = from.count;
             comparisons = from.comparisons;
             opens = from.opens;
+            named = from.named;
             System.arraycopy(from.kinds, 0, kinds, 0, count);
             System.arraycopy(from.targets, 0, targets, 0, count);
             System.arraycopy(from.firsts, 0, firsts, 0, count);
             System.arraycopy(from.seconds, 0, seconds, 0, count);
             System.arraycopy(from.thirds, 0, thirds, 0, count);
-            System.arraycopy(from.named, 0, named, 0, INPUTS);
         }
 
         void add(int kind, int target, int first, int second, int third) {
@@ -200,6 +199,14 @@ public final class ThreeClerks {
             seconds[count] = second;
             thirds[count] = third;
             count++;
+        }
+
+        void name(int input) {
+            named |= 1 << input;
+        }
+
+        boolean names(int input) {
+            return (named >>> input & 1) == 1;
         }
 
         boolean takeComparisons(int more) {
@@ -248,18 +255,15 @@ public final class ThreeClerks {
         private static final int MOST_DECIMALS = 3;
         private static final String SIGNS = "=+-*<?:;$";
 
-        private final char[] text;
+        private final char[] text = new char[MOST_CHARACTERS];
         final int[] kinds = new int[MOST_CHARACTERS + 1];
         final int[] begins = new int[MOST_CHARACTERS + 1];
         /** The register, the number, or the sign's character. */
         final int[] values = new int[MOST_CHARACTERS + 1];
         private int count;
 
-        Tokens(char[] text) {
-            this.text = text;
-        }
-
-        void scan(int length) {
+        void scan(char[] from, int length) {
+            System.arraycopy(from, 0, text, 0, length);
             count = 0;
             int position = 0;
             while (position < length) {
@@ -347,15 +351,11 @@ public final class ThreeClerks {
         private static final int NO_VALUE = -1;
         private static final int MOST_LETTERS_APART = 4;
 
-        private final Tokens tokens;
+        private final Tokens tokens = new Tokens();
         /** Apart from the script that is there, which stays if the text turns out to be none. */
         private final Script draft = new Script();
         /** The token at hand; no step goes on from the last one, so it is always in the row. */
         private int at;
-
-        Reader(char[] text) {
-            tokens = new Tokens(text);
-        }
 
         Script draft() {
             return draft;
@@ -365,8 +365,8 @@ public final class ThreeClerks {
             return tokens.begins[at];
         }
 
-        boolean readScript(int length) {
-            tokens.scan(length);
+        boolean readScript(char[] text, int length) {
+            tokens.scan(text, length);
             draft.clear();
             at = 0;
             for (int statements = 0; statements <= length; statements++) {
@@ -493,9 +493,9 @@ public final class ThreeClerks {
             if (!takeSign('$') || !is(Tokens.NUMBER) || tokens.values[at] >= INPUTS) {
                 return NO_VALUE;
             }
-            int named = take();
-            draft.named[named] = true;
-            return REGISTERS + named;
+            int input = take();
+            draft.name(input);
+            return REGISTERS + input;
         }
 
         /** COPY where no operator stands. */
@@ -910,8 +910,7 @@ public final class ThreeClerks {
         private static final int TASK_DONE = 5;
 
         private final int who;
-        private final Script script;
-        private final Post post;
+        private final Script script = new Script();
         private final Box box = new Box();
         private final Pads pads = new Pads();
         private final int[] own = new int[FIRST_NUMBER];
@@ -928,10 +927,8 @@ public final class ThreeClerks {
         private final int[] opened = new int[MOST_OPENED];
         private int openedCount;
 
-        Clerk(int who, Script script, Post post) {
+        Clerk(int who) {
             this.who = who;
-            this.script = script;
-            this.post = post;
             comparison = new Comparison(who);
             left = new Parts(who);
             right = new Parts(who);
@@ -939,7 +936,8 @@ public final class ThreeClerks {
             bit = new Parts(who);
         }
 
-        void prepare(long ownKey, long nextKey, int runs) {
+        void prepare(Script asked, long ownKey, long nextKey, int runs) {
+            script.copy(asked);
             pads.set(ownKey, nextKey, runs);
             box.clear();
             Arrays.fill(own, 0);
@@ -970,7 +968,7 @@ public final class ThreeClerks {
         }
 
         /** Goes on up to the next message that it must wait for, or to the end of the task. */
-        void step() {
+        void step(Post post) {
             if (waiting) {
                 product.next = box.at(sent);
                 takeAnswer();
@@ -979,7 +977,7 @@ public final class ThreeClerks {
             }
             waiting = stage != TASK_DONE;
             if (waiting) {
-                sendPiece();
+                sendPiece(post);
             } else {
                 task++;
             }
@@ -1041,7 +1039,7 @@ public final class ThreeClerks {
         }
 
         /** All clerks send at the same points, so the answer has the number of what was sent. */
-        private void sendPiece() {
+        private void sendPiece(Post post) {
             sent++;
             if (stage == COMPARING) {
                 comparison.ask(left, right);
@@ -1153,16 +1151,16 @@ public final class ThreeClerks {
         private final Clerk[] clerks = new Clerk[CLERKS];
         private long chance;
 
-        Office(Script script) {
+        Office() {
             for (int i = 0; i < CLERKS; i++) {
-                clerks[i] = new Clerk(i, script, post);
+                clerks[i] = new Clerk(i);
             }
         }
 
-        void prepare(long[] keys, int runs) {
+        void prepare(Script script, long[] keys, int runs) {
             post.clear();
             for (int i = 0; i < CLERKS; i++) {
-                clerks[i].prepare(keys[i], keys[(i + 1) % CLERKS], runs);
+                clerks[i].prepare(script, keys[i], keys[(i + 1) % CLERKS], runs);
             }
         }
 
@@ -1203,7 +1201,7 @@ public final class ThreeClerks {
             for (int i = 0; i < CLERKS; i++) {
                 if (clerks[i].canStep()) {
                     if (passedOver == pick) {
-                        clerks[i].step();
+                        clerks[i].step(post);
                         return;
                     }
                     passedOver++;
